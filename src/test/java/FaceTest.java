@@ -1,23 +1,51 @@
-import java.io.IOException;
 import java.lang.reflect.Constructor;
 import java.lang.reflect.Field;
 import java.lang.reflect.Method;
 import java.lang.reflect.Modifier;
-import java.nio.file.Files;
-import java.nio.file.Path;
+import java.util.List;
 import java.util.Set;
 import java.util.TreeSet;
 
 /** The members that are not private must be just those of the document's public face. */
 public final class FaceTest {
+    /** The lines of the code block under "The public face", without the names of parameters. */
+    private static final String[] FACE = {
+        "public PosterTypes()",
+        "public int fount(int) throws IllegalArgumentException, IllegalStateException",
+        "public int buy(int, int, int)"
+            + " throws IndexOutOfBoundsException, IllegalArgumentException, IllegalStateException",
+        "public int buyAll(int, int) throws IndexOutOfBoundsException, IllegalArgumentException",
+        "public int setOther(int, int) throws IndexOutOfBoundsException, IllegalArgumentException",
+        "public int setTown(int, int, int) throws IndexOutOfBoundsException, IllegalArgumentException",
+        "public int poster(int, int)"
+            + " throws IndexOutOfBoundsException, IllegalArgumentException, IllegalStateException",
+        "public int line(int, int)"
+            + " throws IndexOutOfBoundsException, IllegalArgumentException, IllegalStateException",
+        "public int set(int) throws IndexOutOfBoundsException, IllegalStateException",
+        "public int print(int, int)"
+            + " throws IndexOutOfBoundsException, IllegalArgumentException, IllegalStateException",
+        "public int strike(int) throws IndexOutOfBoundsException, IllegalStateException",
+        "public int block(int, int, int) throws IndexOutOfBoundsException",
+        "public int told(int, int) throws IndexOutOfBoundsException",
+        "public int about(int, int, int) throws IndexOutOfBoundsException",
+        "public int count(int) throws IndexOutOfBoundsException",
+        "public int would(int, int) throws IndexOutOfBoundsException",
+        "public int next()",
+        "public int advise(int) throws IndexOutOfBoundsException",
+        "public int lasts(int) throws IndexOutOfBoundsException, IllegalStateException",
+        "public double mean()",
+        "public long digest()"
+    };
+
     private static int wrong = 0;
 
-    public static void main(String[] args) throws IOException {
-        Set<String> want = wanted(Path.of("../shared/DOC.md"));
+    public static void main(String[] args) {
+        Set<String> want = new TreeSet<>(List.of(FACE));
         Set<String> got = found();
         report("is missing or has another signature", want, got);
         report("is not of the document's face", got, want);
-        if (!Modifier.isFinal(PosterTypes.class.getModifiers()) || !Modifier.isPublic(PosterTypes.class.getModifiers())) {
+        int how = PosterTypes.class.getModifiers();
+        if (!Modifier.isFinal(how) || !Modifier.isPublic(how)) {
             wrong++;
             System.out.println("the class is not public and final");
         }
@@ -33,23 +61,6 @@ public final class FaceTest {
                 System.out.println(one + " " + why);
             }
         }
-    }
-
-    /** The lines of the document's code block, without the names of parameters. */
-    private static Set<String> wanted(Path document) throws IOException {
-        Set<String> all = new TreeSet<>();
-        boolean inFace = false;
-        for (String line : Files.readAllLines(document)) {
-            inFace = line.startsWith("public final class") || (inFace && !line.startsWith("}"));
-            if (inFace && line.startsWith("    public ")) {
-                all.add(line.trim().replace(";", "").replaceAll("(int|long|double) \\w+(?=[,)])", "$1"));
-            }
-        }
-        if (all.isEmpty()) {
-            wrong++;
-            System.out.println("no face found in " + document);
-        }
-        return all;
     }
 
     private static Set<String> found() {
