@@ -70,7 +70,7 @@ public final class FaceTest {
         }
         Set<String> publicNames = new TreeSet<>();
         for (Method method : PosterTypes.class.getDeclaredMethods()) {
-            if (!Modifier.isPrivate(method.getModifiers())) {
+            if (!Modifier.isPrivate(method.getModifiers()) && !method.isSynthetic()) {
                 publicNames.add(method.getName());
                 all.add(Modifier.toString(method.getModifiers()) + " " + method.getReturnType().getSimpleName() + " "
                     + method.getName() + "(" + names(method.getParameterTypes()) + ")"
@@ -84,7 +84,7 @@ public final class FaceTest {
             }
         }
         for (Field field : PosterTypes.class.getDeclaredFields()) {
-            if (!Modifier.isPrivate(field.getModifiers())) {
+            if (!Modifier.isPrivate(field.getModifiers()) && !field.isSynthetic()) {
                 all.add("field " + field.getName());
             }
             if (Modifier.isStatic(field.getModifiers()) && !Modifier.isFinal(field.getModifiers())) {

@@ -45,7 +45,7 @@ public final class PromisesTest {
     /** A list's own IndexOutOfBoundsException looks like the one that is due, but the machine threw it. */
     private static void dueOwnThrow(String call, RuntimeException e) {
         StackTraceElement[] trace = e.getStackTrace();
-        if (trace.length > 0 && !trace[0].getClassName().equals("PosterTypes")) {
+        if (trace.length > 0 && !trace[0].getClassName().split("\\$")[0].equals("PosterTypes")) {
             wrong++;
             System.out.println(call + " threw in " + trace[0] + ", not by a throw of its own");
         }
