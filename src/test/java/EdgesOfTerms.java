@@ -25,6 +25,15 @@ final class EdgesOfTerms {
     }
 
     @Sentence(promise = 0, words = "An object is used for at most 512 calls after it has been made")
+    static void callsThe512thWithAsManyCoinsAsThereCanBe() {
+        PosterTypes x = greatest();
+        for (int call = 16; call <= 511; call++) {
+            Edges.due("call " + call + ", print(0, 500)", 28800, x.print(0, 500));
+        }
+        Edges.due("call 512, count(3)", 496 * 28800, x.count(3));
+    }
+
+    @Sentence(promise = 0, words = "An object is used for at most 512 calls after it has been made")
     static void callsThe512thWhichAsks() {
         PosterTypes x = Edges.founts(1, 0);
         x.buy(0, 1, 1);
@@ -374,6 +383,16 @@ final class EdgesOfTerms {
             x -> x.would(0, 1));
         Edges.answered("777 with 1 of 7 and 2 of 4 when 5 may stand in", -1, () -> sevensAndFours(1, 2, 5),
             x -> x.would(0, 1));
+        Edges.answered("777 with 1 of 7 and 2 of 4 that may stand in for 5, which may for 7", -1,
+            () -> sevensAndFours(1, 2, 5), x -> {
+                x.setOther(5, 4);
+                return x.would(0, 1);
+            });
+        Edges.answered("777 with 1 of 7 and 2 of 4 when 7 may stand in for 4", -1, () -> sevensAndFours(1, 2, -1),
+            x -> {
+                x.setOther(4, 7);
+                return x.would(0, 1);
+            });
         PosterTypes y = sevensAndFours(1, 2, 4);
         y.set(Edges.poster(y, 4));
         Edges.due("777 with 1 of 7 and 1 free of 4", -1, y.would(0, 1));
@@ -556,6 +575,28 @@ final class EdgesOfTerms {
             }
         }
         Edges.due("count(6)", 8, x.count(6));
+    }
+
+    @Sentence(promise = 0, words = "the blocks of each are out then.")
+    static void posterLacksInALineWhatOneAheadTook() {
+        for (int i = 0; i < 10; i++) {
+            int letter = i;
+            int other = (i + 1) % 10;
+            for (int fount = 0; fount < 5; fount++) {
+                PosterTypes x = Edges.founts(5, 0);
+                x.buy(fount, letter, 1);
+                Edges.poster(x, letter, letter);
+                String two = letter + ", " + letter + " of fount " + fount + " with ";
+                Edges.due(two + "1 block", -1, x.would(0, 1));
+                x.setOther(letter, other);
+                x.buy(fount, other, 1);
+                Edges.due(two + "1 block and one that stands in", 1, x.would(0, 1));
+                x.line(0, other);
+                Edges.due(two + "1 block, one that stands in, and a line that lacks it", -1, x.would(0, 1));
+                x.buy(fount, letter, 1);
+                Edges.due(two + "2 blocks, and a line of another letter", 0, x.set(0));
+            }
+        }
     }
 
     @Sentence(promise = 0, words = "If some line cannot be set, the poster cannot, and no block is out by it.")

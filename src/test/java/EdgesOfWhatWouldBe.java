@@ -480,6 +480,21 @@ final class EdgesOfWhatWouldBe {
         Edges.due("lasts(0) by the letter that stands in", 200, z.lasts(0));
     }
 
+    @Sentence(promise = 19, words = "some letter that it has out, in its fount")
+    static void lastsIsByEachLetterOfEachFount() {
+        for (int fount = 0; fount < 5; fount++) {
+            for (int letter = 0; letter < 10; letter++) {
+                PosterTypes x = Edges.founts(5, 0);
+                x.buy(fount, letter, 3);
+                Edges.poster(x, letter, letter);
+                x.set(0);
+                Edges.due("lasts(0) with two blocks of " + letter + " of fount " + fount, 200, x.lasts(0));
+                x.print(0, 170);
+                Edges.due("lasts(0) behind print(0, 170)", 30, x.lasts(0));
+            }
+        }
+    }
+
     @Sentence(promise = 19, words = "0 if so now, at most 400.")
     static void lastsIs0To400() {
         int[][] runs = {{0, 400}, {1, 399}, {398, 2}, {399, 1}, {400, 0}, {401, 0}, {500, 0}};
