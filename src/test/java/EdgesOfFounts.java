@@ -340,6 +340,25 @@ final class EdgesOfFounts {
         }
     }
 
+    @Sentence(promise = 6, words = "what it pays from now on - strict: how strict it is from now on")
+    static void setTownIsFromNowOn() {
+        PosterTypes x = Edges.founts(1, 1);
+        x.setOther(1, 2);
+        Edges.posterFor(x, 2, 1, 11);
+        x.set(0);
+        Edges.due("told(0, 7), pay 3, strict 5", 20 * 3 - 5, x.told(0, 7));
+        Edges.due("print(0, 200)", 110, x.print(0, 200));
+        int[][] towns = {{9, 30, 150}, {9, 0, 180}, {2, 30, 10}, {1, 20, 0}, {0, 0, 0}, {3, 5, 55}};
+        int coins = 110;
+        for (int[] row : towns) {
+            x.setTown(2, row[0], row[1]);
+            Edges.due("told(0, 7), pay " + row[0] + ", strict " + row[1], row[2], x.told(0, 7));
+            Edges.due("count(3) ahead of a print", coins, x.count(3));
+            coins += 2 * row[2];
+            Edges.due("print(0, 200) then", 2 * row[2], x.print(0, 200));
+        }
+    }
+
     @Sentence(promise = 6, words = "Throws IndexOutOfBoundsException if there is no such town")
     static void setTownWantsATown() {
         Edges.answered("setTown(0, 1, 1)", 305, PosterTypes::new, x -> x.setTown(0, 1, 1));

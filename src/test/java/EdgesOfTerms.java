@@ -639,6 +639,26 @@ final class EdgesOfTerms {
 
     // ---- proof, printing, striking
 
+    @Sentence(promise = 0, words = "for each line that is set the height of its fount times its letters, all added")
+    static void proofAddsEachLineByItsOwnFount() {
+        PosterTypes x = new PosterTypes();
+        int[] heights = {1, 20, 19, 2};
+        for (int fount = 0; fount < 4; fount++) {
+            x.fount(heights[fount]);
+            x.buy(fount, fount, 9);
+        }
+        x.setTown(0, 1, 30);
+        int[][] proofs = {{0, 1}, {11111111, 1 + 20 * 8}, {2, 1 + 20 * 8 + 19}, {3333, 1 + 20 * 8 + 19 + 2 * 4}};
+        x.poster(0, 1);
+        for (int[] pair : proofs) {
+            x.line(0, pair[0]);
+            Edges.due("would(0, 0) with the line " + pair[0], pair[1], x.would(0, 0));
+            x.set(0);
+            Edges.due("told(0, 7) with the line " + pair[0], pair[1], x.told(0, 7));
+            x.strike(0);
+        }
+    }
+
     @Sentence(promise = 0, words = "less all its flaws times how strict the town is now; at least 0.")
     static void proofIsAtLeast0() {
         int[][] proofs = {{0, 20}, {1, 18}, {9, 2}, {10, 0}, {11, 0}, {30, 0}};
