@@ -56,7 +56,9 @@ final class EdgesOfFounts {
         }
     }
 
-    @Sentence(promise = 2, words = "Throws IllegalArgumentException if height is not 1 to 20")
+    @Sentence(promise = 2, words = {
+        "height: the height of a new fount",
+        "Throws IllegalArgumentException if height is not 1 to 20"})
     static void fountHeightIs1To20() {
         for (int height : new int[] {1, 2, 19, 20}) {
             Edges.answered("fount(" + height + ")", 0, PosterTypes::new, x -> x.fount(height));
@@ -115,7 +117,9 @@ final class EdgesOfFounts {
         return x;
     }
 
-    @Sentence(promise = 3, words = "Throws IndexOutOfBoundsException if there is no such fount or letter")
+    @Sentence(promise = 3, words = {
+        "fount: a fount - letter: a letter",
+        "Throws IndexOutOfBoundsException if there is no such fount or letter"})
     static void buyWantsAFountAndALetter() {
         Edges.Shop five = () -> Edges.founts(5, 1);
         for (int i = 0; i < 5; i++) {
@@ -138,7 +142,9 @@ final class EdgesOfFounts {
         Edges.refused("buy(1, 0, 1) with one", Edges.INDEX, () -> Edges.founts(1, 1), x -> x.buy(1, 0, 1));
     }
 
-    @Sentence(promise = 3, words = "Throws IllegalArgumentException if many is not 1 to 9")
+    @Sentence(promise = 3, words = {
+        "many: how many blocks of it come",
+        "Throws IllegalArgumentException if many is not 1 to 9"})
     static void buyIsOf1To9() {
         for (int many = 1; many <= 9; many++) {
             int come = many;
@@ -171,7 +177,9 @@ final class EdgesOfFounts {
 
     // ---- promise 4
 
-    @Sentence(promise = 4, words = "Buys blocks of all letters, of each only up to 9 in all.")
+    @Sentence(promise = 4, words = {
+        "Buys blocks of all letters, of each only up to 9 in all.",
+        "many: how many of each"})
     static void buyAllIsUpTo9OfEach() {
         for (int i = 1; i <= 9; i++) {
             int many = i;
@@ -213,7 +221,9 @@ final class EdgesOfFounts {
         Edges.answered("buyAll(0, 9) when 9 of a letter broke", 9, EdgesOfFounts::broken, x -> x.buyAll(0, 9));
     }
 
-    @Sentence(promise = 4, words = "Throws IndexOutOfBoundsException if there is no such fount")
+    @Sentence(promise = 4, words = {
+        "fount: a fount",
+        "Throws IndexOutOfBoundsException if there is no such fount"})
     static void buyAllWantsAFount() {
         Edges.answered("buyAll(0, 1)", 10, () -> Edges.founts(5, 0), x -> x.buyAll(0, 1));
         Edges.answered("buyAll(4, 1)", 10, () -> Edges.founts(5, 0), x -> x.buyAll(4, 1));
@@ -240,7 +250,8 @@ final class EdgesOfFounts {
 
     // ---- promise 5
 
-    @Sentence(promise = 5, words = "the one that can stand in its place from now on, -1 for none")
+    @Sentence(promise = 5, words = "letter: a letter - other: the one that can stand in its place from now"
+        + " on, -1 for none")
     static void setOtherIsFromNowOn() {
         for (int i = -1; i < 10; i++) {
             int other = i;
@@ -283,7 +294,8 @@ final class EdgesOfFounts {
         }
     }
 
-    @Sentence(promise = 5, words = "Throws IndexOutOfBoundsException if there is no such letter, or other is not -1 to 9")
+    @Sentence(promise = 5, words = "Throws IndexOutOfBoundsException if there is no such letter, or other is not -1 to"
+        + " 9")
     static void setOtherWantsLetters() {
         Edges.answered("setOther(0, 9)", -1, PosterTypes::new, x -> x.setOther(0, 9));
         Edges.answered("setOther(9, 0)", -1, PosterTypes::new, x -> x.setOther(9, 0));
@@ -340,7 +352,8 @@ final class EdgesOfFounts {
         }
     }
 
-    @Sentence(promise = 6, words = "what it pays from now on - strict: how strict it is from now on")
+    @Sentence(promise = 6, words = "town: a town - pay: what it pays from now on - strict: how strict it is"
+        + " from now on")
     static void setTownIsFromNowOn() {
         PosterTypes x = Edges.founts(1, 1);
         x.setOther(1, 2);

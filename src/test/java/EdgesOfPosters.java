@@ -34,6 +34,23 @@ final class EdgesOfPosters {
         return x;
     }
 
+    /** Six posters, each with one line, of a letter of its own: 0 to 5. */
+    private static PosterTypes six() {
+        PosterTypes x = Edges.founts(1, 1);
+        for (int i = 0; i < 6; i++) {
+            Edges.poster(x, i);
+        }
+        return x;
+    }
+
+    private static PosterTypes sixSet() {
+        PosterTypes x = six();
+        for (int i = 0; i < 6; i++) {
+            x.set(i);
+        }
+        return x;
+    }
+
     // ---- promise 7
 
     @Sentence(promise = 7, words = "Returns its number.")
@@ -44,7 +61,9 @@ final class EdgesOfPosters {
         }
     }
 
-    @Sentence(promise = 7, words = "Throws IndexOutOfBoundsException if there is no such town")
+    @Sentence(promise = 7, words = {
+        "town: the town of a new poster",
+        "Throws IndexOutOfBoundsException if there is no such town"})
     static void posterWantsATown() {
         for (int i = 0; i < 4; i++) {
             int town = i;
@@ -63,7 +82,9 @@ final class EdgesOfPosters {
         }
     }
 
-    @Sentence(promise = 7, words = "Throws IllegalArgumentException if tall is not 1 to 20")
+    @Sentence(promise = 7, words = {
+        "tall: the height that it wants",
+        "Throws IllegalArgumentException if tall is not 1 to 20"})
     static void posterIs1To20Tall() {
         for (int tall : new int[] {1, 2, 19, 20}) {
             Edges.answered("told(0, 1) behind poster(0, " + tall + ")", tall, PosterTypes::new, x -> {
@@ -89,7 +110,22 @@ final class EdgesOfPosters {
 
     // ---- promise 8
 
-    @Sentence(promise = 8, words = "Returns the number of the line, from 0.")
+    @Sentence(promise = 8, words = "Adds a line to a poster.")
+    static void lineIsAddedToThePosterAlone() {
+        for (int poster = 0; poster < 6; poster++) {
+            PosterTypes x = six();
+            x.line(poster, 708);
+            for (int i = 0; i < 6; i++) {
+                String behind = " behind line(" + poster + ", 708)";
+                Edges.due("told(" + i + ", 2)" + behind, i == poster ? 2 : 1, x.told(i, 2));
+                Edges.due("told(" + i + ", 3)" + behind, i == poster ? 4 : 1, x.told(i, 3));
+            }
+        }
+    }
+
+    @Sentence(promise = 8, words = {
+        "word: its word",
+        "Returns the number of the line, from 0."})
     static void lineNumbersAre0To3() {
         PosterTypes x = posters(2);
         for (int i = 0; i < 4; i++) {
@@ -102,7 +138,9 @@ final class EdgesOfPosters {
         }
     }
 
-    @Sentence(promise = 8, words = "Throws IndexOutOfBoundsException if there is no such poster")
+    @Sentence(promise = 8, words = {
+        "poster: the poster",
+        "Throws IndexOutOfBoundsException if there is no such poster"})
     static void lineWantsAPoster() {
         Edges.answered("line(0, 1)", 0, () -> posters(6), x -> x.line(0, 1));
         Edges.answered("line(5, 1)", 0, () -> posters(6), x -> x.line(5, 1));
@@ -156,6 +194,20 @@ final class EdgesOfPosters {
 
     // ---- promise 9
 
+    @Sentence(promise = 9, words = "Sets a poster.")
+    static void setIsOfThePosterAlone() {
+        for (int poster = 0; poster < 6; poster++) {
+            PosterTypes x = six();
+            x.set(poster);
+            for (int i = 0; i < 6; i++) {
+                String behind = " behind set(" + poster + ")";
+                Edges.due("told(" + i + ", 4)" + behind, i == poster ? 1 : 0, x.told(i, 4));
+                Edges.due("about(" + i + ", 0, 3)" + behind, i == poster ? i : -1, x.about(i, 0, 3));
+                Edges.due("block(0, " + i + ", 1)" + behind, i == poster ? 0 : 1, x.block(0, i, 1));
+            }
+        }
+    }
+
     @Sentence(promise = 9, words = "Returns its flaws.")
     static void setTellsTheFlaws() {
         for (int i = 0; i <= 9; i++) {
@@ -177,7 +229,9 @@ final class EdgesOfPosters {
         }
     }
 
-    @Sentence(promise = 9, words = "Throws IndexOutOfBoundsException if there is no such poster")
+    @Sentence(promise = 9, words = {
+        "poster: the poster",
+        "Throws IndexOutOfBoundsException if there is no such poster"})
     static void setWantsAPoster() {
         Edges.answered("set(0)", 0, () -> with(1), x -> x.set(0));
         Edges.answered("set(5)", 0, () -> {
@@ -247,6 +301,20 @@ final class EdgesOfPosters {
 
     // ---- promise 10
 
+    @Sentence(promise = 10, words = "Prints copies of a poster.")
+    static void printIsOfThePosterAlone() {
+        for (int poster = 0; poster < 6; poster++) {
+            PosterTypes x = sixSet();
+            x.print(poster, 70);
+            for (int i = 0; i < 6; i++) {
+                String behind = " behind print(" + poster + ", 70)";
+                Edges.due("told(" + i + ", 6)" + behind, i == poster ? 70 : 0, x.told(i, 6));
+                Edges.due("block(0, " + i + ", 2)" + behind, i == poster ? 70 : 0, x.block(0, i, 2));
+                Edges.due("told(" + i + ", 4)" + behind, 1, x.told(i, 4));
+            }
+        }
+    }
+
     @Sentence(promise = 10, words = "Returns how many coins the shop gets.")
     static void printTellsTheCoins() {
         PosterTypes x = set(1);
@@ -259,7 +327,9 @@ final class EdgesOfPosters {
         Edges.due("count(3)", 151, x.count(3));
     }
 
-    @Sentence(promise = 10, words = "Throws IndexOutOfBoundsException if there is no such poster")
+    @Sentence(promise = 10, words = {
+        "poster: the poster",
+        "Throws IndexOutOfBoundsException if there is no such poster"})
     static void printWantsAPoster() {
         Edges.answered("print(0, 500) with a proof of 30", 150, () -> set(1), x -> x.print(0, 500));
         Edges.answered("print(5, 10) with a proof of 30", 3, () -> {
@@ -279,7 +349,9 @@ final class EdgesOfPosters {
         }
     }
 
-    @Sentence(promise = 10, words = "Throws IllegalArgumentException if copies is not 1 to 500")
+    @Sentence(promise = 10, words = {
+        "copies: how many",
+        "Throws IllegalArgumentException if copies is not 1 to 500"})
     static void printIsOf1To500() {
         int[][] coins = {{1, 0}, {2, 0}, {499, 149}, {500, 150}};
         for (int[] pair : coins) {
@@ -317,6 +389,20 @@ final class EdgesOfPosters {
 
     // ---- promise 11
 
+    @Sentence(promise = 11, words = "Strikes a poster.")
+    static void strikeIsOfThePosterAlone() {
+        for (int poster = 0; poster < 6; poster++) {
+            PosterTypes x = sixSet();
+            x.strike(poster);
+            for (int i = 0; i < 6; i++) {
+                String behind = " behind strike(" + poster + ")";
+                Edges.due("told(" + i + ", 4)" + behind, i == poster ? 0 : 1, x.told(i, 4));
+                Edges.due("about(" + i + ", 0, 3)" + behind, i == poster ? -1 : i, x.about(i, 0, 3));
+                Edges.due("block(0, " + i + ", 1)" + behind, i == poster ? 1 : 0, x.block(0, i, 1));
+            }
+        }
+    }
+
     @Sentence(promise = 11, words = "Returns how many blocks break.")
     static void strikeTellsHowManyBreak() {
         Edges.answered("strike(0) without wear", 0, () -> set(1), x -> x.strike(0));
@@ -350,7 +436,9 @@ final class EdgesOfPosters {
         return x;
     }
 
-    @Sentence(promise = 11, words = "Throws IndexOutOfBoundsException if there is no such poster")
+    @Sentence(promise = 11, words = {
+        "poster: the poster",
+        "Throws IndexOutOfBoundsException if there is no such poster"})
     static void strikeWantsAPoster() {
         Edges.answered("strike(0)", 0, Edges::full, x -> x.strike(0));
         Edges.answered("strike(5)", 0, () -> {

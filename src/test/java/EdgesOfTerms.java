@@ -64,6 +64,43 @@ final class EdgesOfTerms {
         }
     }
 
+    // ---- what the shop is for
+
+    @Sentence(promise = 0, words = "Founts of several heights have blocks of each letter; posters rent them line by"
+        + " line, as tall as is wanted, with other letters in the place of missing ones; printing wears blocks, and worn"
+        + " ones break; towns pay by height, and less for wrong letters; and it is told which blocks are free and how"
+        + " worn, how each line is set, what a poster is worth in proof, which one had best be set next, which block"
+        + " would help it most, and how many copies its type will last.")
+    static void shopDoesAllThatItIsFor() {
+        PosterTypes x = new PosterTypes();
+        x.fount(10);
+        x.fount(20);
+        x.buyAll(0, 2);
+        x.buy(1, 1, 1);
+        x.buy(1, 2, 1);
+        x.setOther(3, 4);
+        x.setTown(1, 5, 7);
+        Edges.posterFor(x, 1, 20, 1);
+        Edges.posterFor(x, 1, 10, 12, 333);
+        Edges.due("next()", 1, x.next());
+        Edges.due("set(1)", 1, x.set(1));
+        Edges.due("about(1, 0, 1), the higher fount", 1, x.about(1, 0, 1));
+        Edges.due("about(1, 1, 1), the lower fount", 0, x.about(1, 1, 1));
+        Edges.due("about(1, 1, 3), with another letter", 334, x.about(1, 1, 3));
+        Edges.due("block(0, 3, 1)", 0, x.block(0, 3, 1));
+        Edges.due("block(0, 4, 1)", 1, x.block(0, 4, 1));
+        Edges.due("told(1, 7)", (20 * 2 + 10 * 3) * 5 - 7, x.told(1, 7));
+        Edges.due("advise(0)", 11, x.advise(0));
+        Edges.due("lasts(1)", 200, x.lasts(1));
+        Edges.due("print(1, 200)", 343 * 200 / 100, x.print(1, 200));
+        Edges.due("block(0, 3, 2)", 400, x.block(0, 3, 2));
+        Edges.due("block(0, 4, 2)", 200, x.block(0, 4, 2));
+        Edges.due("strike(1)", 1, x.strike(1));
+        Edges.due("block(0, 3, 0)", 1, x.block(0, 3, 0));
+        Edges.due("next() behind it", 1, x.next());
+        Edges.due("would(0, 0) behind it", 100, x.would(0, 0));
+    }
+
     // ---- numbers, letters and words
 
     @Sentence(promise = 0, words = "All numbers are whole, and / is cut towards 0.")
@@ -83,7 +120,7 @@ final class EdgesOfTerms {
         }
     }
 
-    @Sentence(promise = 0, words = "There are 10, 0 to 9.")
+    @Sentence(promise = 0, words = "Letters. There are 10, 0 to 9.")
     static void lettersAre0To9() {
         for (int letter = 0; letter < 10; letter++) {
             int one = letter;
@@ -121,7 +158,8 @@ final class EdgesOfTerms {
         int least = 1;
         for (int letters = 1; letters <= 8; letters++) {
             for (int word : new int[] {least, most}) {
-                Edges.answered("about(0, 0, 0) of the word " + word, letters, () -> wordSet(word), x -> x.about(0, 0, 0));
+                Edges.answered("about(0, 0, 0) of the word " + word, letters, () -> wordSet(word),
+                    x -> x.about(0, 0, 0));
                 Edges.answered("told(0, 3) of the word " + word, letters, () -> wordSet(word), x -> x.told(0, 3));
                 Edges.answered("count(6) of the word " + word, letters, () -> wordSet(word), x -> x.count(6));
             }
@@ -133,7 +171,7 @@ final class EdgesOfTerms {
         }
     }
 
-    @Sentence(promise = 0, words = "its letters are its digits, the highest one first")
+    @Sentence(promise = 0, words = "Setting a line of a fount, by its letters, one by one, from the first one on")
     static void lettersTakeBlocksTheHighestDigitFirst() {
         Edges.Shop shop = () -> {
             PosterTypes x = Edges.founts(1, 0);
@@ -205,7 +243,7 @@ final class EdgesOfTerms {
 
     // ---- founts, towns, posters
 
-    @Sentence(promise = 0, words = "At most 5, numbered from 0; each has a height, 1 to 20")
+    @Sentence(promise = 0, words = "Founts. At most 5, numbered from 0; each has a height, 1 to 20")
     static void fountsAreAtMost5() {
         PosterTypes x = new PosterTypes();
         for (int i = 0; i < 5; i++) {
@@ -220,8 +258,8 @@ final class EdgesOfTerms {
         Edges.refused("fount(21)", Edges.ARGUMENT, PosterTypes::new, s -> s.fount(21));
     }
 
-    @Sentence(promise = 0, words = "for each letter 0 to 9 blocks (none, at first), some of which are out, the others free,"
-        + " and a wear (0, at first).")
+    @Sentence(promise = 0, words = "and for each letter 0 to 9 blocks (none, at first), some of which are out, the"
+        + " others free, and a wear (0, at first).")
     static void fountsHaveNoBlocksAndNoWearAtFirst() {
         for (int letter = 0; letter < 10; letter++) {
             for (int what = 0; what < 3; what++) {
@@ -236,8 +274,8 @@ final class EdgesOfTerms {
         }
     }
 
-    @Sentence(promise = 0, words = "for each letter 0 to 9 blocks (none, at first), some of which are out, the others free,"
-        + " and a wear (0, at first).")
+    @Sentence(promise = 0, words = "and for each letter 0 to 9 blocks (none, at first), some of which are out, the"
+        + " others free, and a wear (0, at first).")
     static void fountsHaveAtMost9BlocksOfALetter() {
         PosterTypes x = Edges.founts(1, 0);
         x.buy(0, 4, 8);
@@ -252,7 +290,7 @@ final class EdgesOfTerms {
         Edges.due("free ones behind the strike", 9, x.block(0, 4, 1));
     }
 
-    @Sentence(promise = 0, words = "There are 4, 0 to 3; each pays, 0 to 9 (3, at first), and is strict,"
+    @Sentence(promise = 0, words = "Towns. There are 4, 0 to 3; each pays, 0 to 9 (3, at first), and is strict,"
         + " 0 to 30 (5, at first).")
     static void townsAre4() {
         for (int town = 0; town < 4; town++) {
@@ -285,7 +323,7 @@ final class EdgesOfTerms {
         return x;
     }
 
-    @Sentence(promise = 0, words = "At most 6, numbered from 0; each is for a town, wants a height, 1 to 20")
+    @Sentence(promise = 0, words = "Posters. At most 6, numbered from 0; each is for a town, wants a height, 1 to 20")
     static void postersAreAtMost6() {
         PosterTypes x = new PosterTypes();
         for (int i = 0; i < 6; i++) {
@@ -301,7 +339,7 @@ final class EdgesOfTerms {
         Edges.refused("poster(0, 21)", Edges.ARGUMENT, PosterTypes::new, s -> s.poster(0, 21));
     }
 
-    @Sentence(promise = 0, words = "has at most 4 lines, each of which is a word.")
+    @Sentence(promise = 0, words = "and has at most 4 lines, each of which is a word.")
     static void postersHaveAtMost4Lines() {
         PosterTypes x = new PosterTypes();
         x.poster(0, 1);
@@ -442,7 +480,8 @@ final class EdgesOfTerms {
         Edges.due("would(0, 1) when no one fount has all letters", -1, y.would(0, 1));
     }
 
-    @Sentence(promise = 0, words = "those that are as high as the poster wants, or higher")
+    @Sentence(promise = 0, words = "A line is set of the fount, of those that are as high as the poster wants,"
+        + " or higher")
     static void lineWantsAFountAsHighAsThePoster() {
         int[][] heights = {{10, 10, 0}, {10, 11, 0}, {10, 9, -1}, {20, 20, 0}, {20, 19, -1}, {1, 1, 0}, {1, 20, 0},
             {2, 1, -1}};
@@ -536,7 +575,8 @@ final class EdgesOfTerms {
 
     // ---- setting a poster
 
-    @Sentence(promise = 0, words = "its lines are set, from the first one on, each as well as it can be by itself")
+    @Sentence(promise = 0, words = "Setting a poster: its lines are set, from the first one on, each as well as it can"
+        + " be by itself")
     static void posterIsSetLineByLine() {
         Edges.answered("would(.., 1) of 1, 12: 1 takes what 12 needs", -1, EdgesOfTerms::highOne,
             x -> x.would(Edges.poster(x, 1, 12), 1));
@@ -639,7 +679,8 @@ final class EdgesOfTerms {
 
     // ---- proof, printing, striking
 
-    @Sentence(promise = 0, words = "for each line that is set the height of its fount times its letters, all added")
+    @Sentence(promise = 0, words = "Proof of a poster: for each line that is set the height of its fount times its"
+        + " letters, all added")
     static void proofAddsEachLineByItsOwnFount() {
         PosterTypes x = new PosterTypes();
         int[] heights = {1, 20, 19, 2};
@@ -744,8 +785,8 @@ final class EdgesOfTerms {
         Edges.due("told(0, 7) behind a strike", 0, x.told(0, 7));
     }
 
-    @Sentence(promise = 0, words = "for each block that is out for the poster the wear of its letter in its fount is as"
-        + " many more as there are copies")
+    @Sentence(promise = 0, words = "Printing copies: for each block that is out for the poster the wear of its letter"
+        + " in its fount is as many more as there are copies")
     static void printingWearsWhatIsOutForThePoster() {
         PosterTypes x = Edges.founts(2, 3);
         x.setOther(1, 2);
@@ -784,7 +825,7 @@ final class EdgesOfTerms {
         Edges.answered("count(3) of a new shop", 0, PosterTypes::new, x -> x.count(3));
     }
 
-    @Sentence(promise = 0, words = "its blocks are free again, and it is not set.")
+    @Sentence(promise = 0, words = "Striking a poster: its blocks are free again, and it is not set.")
     static void strikingFreesTheBlocksOfThePosterAlone() {
         PosterTypes x = sevensAndFours(1, 2, 4);
         x.buy(0, 1, 2);
@@ -803,8 +844,8 @@ final class EdgesOfTerms {
         Edges.due("it can be set again", 2, x.set(0));
     }
 
-    @Sentence(promise = 0, words = "as long as a letter has a wear of 400 or more, and a free block, one of these breaks,"
-        + " and its wear is 400 less.")
+    @Sentence(promise = 0, words = "as long as a letter has a wear of 400 or more, and a free block, one of these"
+        + " breaks, and its wear is 400 less.")
     static void strikingBreaksAtAWearOf400() {
         int[][] runs = {{398, 0, 398}, {399, 0, 399}, {400, 1, 0}, {401, 1, 1}, {799, 1, 399}, {800, 2, 0},
             {801, 2, 1}, {1199, 2, 399}, {1200, 3, 0}, {3999, 9, 399}, {4000, 9, 400}};
@@ -821,7 +862,8 @@ final class EdgesOfTerms {
             Edges.answered(call, run[1], shop, x -> x.strike(0));
             for (int what = 0; what < 3; what++) {
                 int asked = what;
-                Edges.answered("block(0, 7, " + asked + ") behind " + call, what == 2 ? run[2] : 9 - run[1], shop, x -> {
+                Edges.answered("block(0, 7, " + asked + ") behind " + call,
+                    what == 2 ? run[2] : 9 - run[1], shop, x -> {
                     x.strike(0);
                     return x.block(0, 7, asked);
                 });

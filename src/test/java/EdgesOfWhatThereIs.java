@@ -39,7 +39,9 @@ final class EdgesOfWhatThereIs {
 
     // ---- promise 12
 
-    @Sentence(promise = 12, words = "0 its blocks, 1 free ones, 2 its wear")
+    @Sentence(promise = 12, words = {
+        "what: 0 its blocks, 1 free ones, 2 its wear",
+        "Returns this."})
     static void blockTellsNoneAndAll() {
         long[] none = {0, 0, 0};
         long[] some = {9, 9, 0};
@@ -66,8 +68,9 @@ final class EdgesOfWhatThereIs {
         }
     }
 
-    @Sentence(promise = 12, words = "Throws IndexOutOfBoundsException if there is no such fount or letter, or what is"
-        + " not 0 to 2")
+    @Sentence(promise = 12, words = {
+        "fount: a fount",
+        "Throws IndexOutOfBoundsException if there is no such fount or letter, or what is not 0 to 2"})
     static void blockWantsAFount() {
         for (int i = 0; i < 5; i++) {
             int fount = i;
@@ -80,8 +83,9 @@ final class EdgesOfWhatThereIs {
         }
     }
 
-    @Sentence(promise = 12, words = "Throws IndexOutOfBoundsException if there is no such fount or letter, or what is"
-        + " not 0 to 2")
+    @Sentence(promise = 12, words = {
+        "letter: a letter",
+        "Throws IndexOutOfBoundsException if there is no such fount or letter, or what is not 0 to 2"})
     static void blockWantsALetter() {
         Edges.answered("block(4, 0, 0)", 9, Edges::full, x -> x.block(4, 0, 0));
         Edges.answered("block(4, 9, 0)", 9, Edges::full, x -> x.block(4, 9, 0));
@@ -112,7 +116,9 @@ final class EdgesOfWhatThereIs {
         }
     }
 
-    @Sentence(promise = 13, words = "0 its town, 1 the height that it wants, 2 its lines, 3 letters of all its lines,")
+    @Sentence(promise = 13, words = {
+        "what: 0 its town, 1 the height that it wants, 2 its lines, 3 letters of all its lines,",
+        "Returns this."})
     static void toldOfNoLinesAndOfAll() {
         dueTold("without lines", () -> without(1), 0, 1, 0, 0, 0, 0, 0, 0);
         dueTold("of the least poster", EdgesOfWhatThereIs::flawed, 2, 3, 2, 4, 0, 0, 0, 0);
@@ -174,7 +180,9 @@ final class EdgesOfWhatThereIs {
         }
     }
 
-    @Sentence(promise = 13, words = "Throws IndexOutOfBoundsException if there is no such poster, or what is not 0 to 7")
+    @Sentence(promise = 13, words = {
+        "poster: a poster",
+        "Throws IndexOutOfBoundsException if there is no such poster, or what is not 0 to 7"})
     static void toldWantsAPoster() {
         for (int i = 0; i < 6; i++) {
             int poster = i;
@@ -187,7 +195,8 @@ final class EdgesOfWhatThereIs {
         }
     }
 
-    @Sentence(promise = 13, words = "Throws IndexOutOfBoundsException if there is no such poster, or what is not 0 to 7")
+    @Sentence(promise = 13, words = "Throws IndexOutOfBoundsException if there is no such poster, or what is not 0 to"
+        + " 7")
     static void toldWantsWhat() {
         for (int what : new int[] {-1, 8, FAR[0], FAR[1]}) {
             Edges.refused("told(0, " + what + ") of a set poster", Edges.INDEX, Edges::full, x -> x.told(0, what));
@@ -201,8 +210,10 @@ final class EdgesOfWhatThereIs {
 
     // ---- promise 14
 
-    @Sentence(promise = 14, words = "0 its letters, 1 the fount of which it is set, 2 its flaws, 3 the letters of the"
-        + " blocks that it takes, as a word")
+    @Sentence(promise = 14, words = {
+        "what: 0 its letters, 1 the fount of which it is set, 2 its flaws, 3 the letters of the blocks that"
+        + " it takes, as a word",
+        "Returns this."})
     static void aboutALineThatIsSet() {
         long[][] want = {{2, 0, 1, 10}, {2, 0, 1, 0}};
         for (int i = 0; i < 8; i++) {
@@ -222,8 +233,8 @@ final class EdgesOfWhatThereIs {
 
     @Sentence(promise = 14, words = "(so a 0 ahead of all does not show)")
     static void aboutAWordWithA0AheadOfAll() {
-        int[][] words = {{15, 5}, {11, 0}, {51, 50}, {115, 5}, {151, 50}, {511, 500}, {11111111, 0}, {51111111, 50000000},
-            {15111111, 5000000}};
+        int[][] words = {{15, 5}, {11, 0}, {51, 50}, {115, 5}, {151, 50}, {511, 500}, {11111111, 0},
+            {51111111, 50000000}, {15111111, 5000000}};
         for (int[] pair : words) {
             PosterTypes x = new PosterTypes();
             x.fount(4);
@@ -257,8 +268,9 @@ final class EdgesOfWhatThereIs {
         }
     }
 
-    @Sentence(promise = 14, words = "Throws IndexOutOfBoundsException if there is no such poster or line, or what is"
-        + " not 0 to 3")
+    @Sentence(promise = 14, words = {
+        "poster: a poster",
+        "Throws IndexOutOfBoundsException if there is no such poster or line, or what is not 0 to 3"})
     static void aboutWantsAPoster() {
         Edges.answered("about(0, 0, 0)", 8, Edges::full, x -> x.about(0, 0, 0));
         Edges.answered("about(5, 0, 0)", 8, Edges::full, x -> x.about(5, 0, 0));
@@ -269,8 +281,9 @@ final class EdgesOfWhatThereIs {
         Edges.refused("about(1, 0, 0) with one", Edges.INDEX, EdgesOfWhatThereIs::flawed, x -> x.about(1, 0, 0));
     }
 
-    @Sentence(promise = 14, words = "Throws IndexOutOfBoundsException if there is no such poster or line, or what is"
-        + " not 0 to 3")
+    @Sentence(promise = 14, words = {
+        "line: one of its lines",
+        "Throws IndexOutOfBoundsException if there is no such poster or line, or what is not 0 to 3"})
     static void aboutWantsALine() {
         Edges.answered("about(5, 3, 0)", 8, Edges::full, x -> x.about(5, 3, 0));
         for (int i = 0; i <= 4; i++) {
@@ -303,8 +316,10 @@ final class EdgesOfWhatThereIs {
 
     // ---- promise 15
 
-    @Sentence(promise = 15, words = "0 founts, 1 posters, 2 those that are set, 3 coins in all, 4 blocks that broke in all,"
-        + " 5 blocks of all founts, 6 those of them that are out")
+    @Sentence(promise = 15, words = {
+        "what: 0 founts, 1 posters, 2 those that are set, 3 coins in all, 4 blocks that broke in all, 5"
+        + " blocks of all founts, 6 those of them that are out",
+        "Returns this."})
     static void countTellsNoneAndAll() {
         long[] full = {5, 6, 5, 0, 0, 450, 125};
         for (int i = 0; i < 7; i++) {

@@ -22,7 +22,8 @@ final class EdgesOfWhatWouldBe {
 
     // ---- promise 16
 
-    @Sentence(promise = 16, words = "0 what its proof would be, 1 its flaws, if it was set now; -1 for both")
+    @Sentence(promise = 16, words = "what: 0 what its proof would be, 1 its flaws, if it was set now; -1 for"
+        + " both")
     static void wouldTellsProofAndFlaws() {
         int[][] towns = {{3, 5, 50}, {0, 0, 0}, {9, 0, 180}, {9, 30, 120}, {1, 9, 2}, {1, 10, 0}, {1, 11, 0}};
         for (int[] row : towns) {
@@ -108,7 +109,9 @@ final class EdgesOfWhatWouldBe {
         Edges.changesNothing("would(5, 0)", Edges::full, x -> x.would(5, 0));
     }
 
-    @Sentence(promise = 16, words = "Throws IndexOutOfBoundsException if there is no such poster, or what is not 0 or 1")
+    @Sentence(promise = 16, words = {
+        "poster: a poster",
+        "Throws IndexOutOfBoundsException if there is no such poster, or what is not 0 or 1"})
     static void wouldWantsAPosterAndWhat() {
         for (int what : new int[] {0, 1}) {
             Edges.answered("would(0, " + what + ")", -1, Edges::full, x -> x.would(0, what));
@@ -394,7 +397,9 @@ final class EdgesOfWhatWouldBe {
         Edges.changesNothing("advise(5)", Edges::full, x -> x.advise(5));
     }
 
-    @Sentence(promise = 18, words = "Throws IndexOutOfBoundsException if there is no such poster")
+    @Sentence(promise = 18, words = {
+        "poster: the poster",
+        "Throws IndexOutOfBoundsException if there is no such poster"})
     static void adviseWantsAPoster() {
         Edges.answered("advise(0)", -1, Edges::full, x -> x.advise(0));
         Edges.answered("advise(5)", -1, Edges::full, x -> x.advise(5));
@@ -421,8 +426,8 @@ final class EdgesOfWhatWouldBe {
         return x;
     }
 
-    @Sentence(promise = 19, words = "Returns how many copies of it, printed from now on without others, are the fewest with"
-        + " which some letter that it has out, in its fount, has a wear of 400 or more")
+    @Sentence(promise = 19, words = "Returns how many copies of it, printed from now on without others, are the fewest"
+        + " with which some letter that it has out, in its fount, has a wear of 400 or more")
     static void lastsIsTheFewestCopies() {
         int[] wears = {0, 1, 2, 199, 200, 201, 391, 392, 396, 397, 398, 399};
         for (int i = 1; i <= 9; i++) {
@@ -533,7 +538,9 @@ final class EdgesOfWhatWouldBe {
         Edges.due("lasts(0) of a bought block, with a wear of 700 left", 0, z.lasts(0));
     }
 
-    @Sentence(promise = 19, words = "Throws IndexOutOfBoundsException if there is no such poster")
+    @Sentence(promise = 19, words = {
+        "poster: a poster",
+        "Throws IndexOutOfBoundsException if there is no such poster"})
     static void lastsWantsAPoster() {
         Edges.answered("lasts(0)", 50, Edges::full, x -> x.lasts(0));
         Edges.answered("lasts(5)", 400, () -> {
@@ -610,7 +617,8 @@ final class EdgesOfWhatWouldBe {
 
     // ---- promise 21
 
-    @Sentence(promise = 21, words = "d becomes d * 31 + x, which wraps around as a 64-bit integer")
+    @Sentence(promise = 21, words = "Computes a checksum. A number d starts with 1721; for each of the"
+        + " following numbers x, d becomes d * 31 + x, which wraps around as a 64-bit integer")
     static void digestWrapsAround() {
         BigInteger d = ofNewShop();
         Edges.due("the checksum of a new shop does not fit into 64 bits", 1, d.bitLength() > 64 ? 1 : 0);
@@ -651,8 +659,11 @@ final class EdgesOfWhatWouldBe {
         }
     }
 
-    @Sentence(promise = 21, words = "for each fount its height, then for each letter what block() tells; for each poster"
-        + " what told() tells, then for each of its lines what about() tells (all in their order)")
+    @Sentence(promise = 21, words = {
+        "what count() tells, in its order",
+        "for each fount its height, then for each letter what block() tells; for each poster what told()"
+        + " tells, then for each of its lines what about() tells (all in their order)",
+        "Returns d."})
     static void digestOfAll() {
         int[] none = {-1, -1, -1, -1, -1, -1, -1, -1, -1, -1};
         dueDigest("of a full shop", Edges.full(), none, 20, 20, 20, 20, 20);

@@ -14,13 +14,23 @@ import java.util.regex.Matcher;
 import java.util.regex.Pattern;
 
 /**
- * Runs the tests of the document's edges, one for each sentence, and holds their names against the document: the
- * words of each test stand there under its promise, and each sentence that tells an exception has a test.
+ * Runs the tests of the document's sentences, and holds what they bear against the document: the words of each
+ * test stand there under its promise, each sentence that tells an exception has a test, and no words are left over
+ * that no test bears.
  */
 public final class EdgesTest {
     private static final Class<?>[] EDGES = {EdgesOfTerms.class, EdgesOfFounts.class, EdgesOfPosters.class,
         EdgesOfWhatThereIs.class, EdgesOfWhatWouldBe.class};
     private static final int PROMISES = 21;
+
+    /** What says nothing that a call could break, and what FaceTest holds: the face, and each promise's signature. */
+    private static final String[] NOT_OF_CALLS = {
+        "# PosterTypes What it is A shop with wooden type for posters\\.",
+        "what later calls answer is free\\.",
+        "The public face public final class PosterTypes \\{.*?\\} Terms",
+        "Ahead of the calls [\\w, ]+ the interface says: ---- [a-z ]+\\.",
+        "^[\\w ]*\\([\\w, ]*\\)( throws [\\w, ]+)?:"
+    };
 
     public static void main(String[] args) throws Exception {
         Map<Integer, String> document = sections(Files.readString(Path.of("../shared/DOC.md")));
@@ -30,16 +40,22 @@ public final class EdgesTest {
             for (Method method : testsOf(edges)) {
                 tests++;
                 Sentence sentence = method.getAnnotation(Sentence.class);
-                String words = plain(sentence.words());
-                Edges.begin("promise " + sentence.promise() + ", \"" + words + "\", " + method.getName());
-                if (!document.getOrDefault(sentence.promise(), "").contains(words)) {
-                    Edges.fault("the document has no such words there");
+                Edges.begin("promise " + sentence.promise() + ", \"" + sentence.words()[0] + "\", " + method.getName());
+                for (String words : sentence.words()) {
+                    if (!document.getOrDefault(sentence.promise(), "").contains(words)) {
+                        Edges.fault("the document has no such words there: \"" + words + "\"");
+                    }
+                    tested.computeIfAbsent(sentence.promise(), none -> new HashSet<>()).add(words);
                 }
-                tested.computeIfAbsent(sentence.promise(), none -> new HashSet<>()).add(words);
                 run(method);
             }
         }
-        everyRefusalIsTested(document, tested);
+        for (int promise = 0; promise <= PROMISES; promise++) {
+            Edges.begin("promise " + promise);
+            Set<String> words = tested.getOrDefault(promise, Set.of());
+            everyRefusalIsTested(document.getOrDefault(promise, ""), words);
+            everyWordIsTested(document.getOrDefault(promise, ""), words);
+        }
         System.out.println(Edges.wrong() == 0 ? "all edges hold (" + tests + " tests)" : Edges.wrong() + " wrong");
         System.exit(Edges.wrong() == 0 ? 0 : 1);
     }
@@ -71,18 +87,40 @@ public final class EdgesTest {
         }
     }
 
-    private static void everyRefusalIsTested(Map<Integer, String> document, Map<Integer, Set<String>> tested) {
-        for (int promise = 1; promise <= PROMISES; promise++) {
-            Edges.begin("promise " + promise);
-            Set<String> words = tested.getOrDefault(promise, Set.of());
-            if (words.isEmpty()) {
-                Edges.fault("it has no test");
+    private static void everyRefusalIsTested(String text, Set<String> tested) {
+        if (text.isEmpty() || tested.isEmpty()) {
+            Edges.fault("the document does not have it, or it has no test");
+        }
+        Matcher refusal = Pattern.compile("Throws .*?(?= Throws |$)").matcher(text);
+        while (refusal.find()) {
+            if (!tested.contains(refusal.group())) {
+                Edges.fault("no test of \"" + refusal.group() + "\"");
             }
-            Matcher refusal = Pattern.compile("Throws .*?(?= Throws |$)").matcher(document.getOrDefault(promise, ""));
-            while (refusal.find()) {
-                if (!words.contains(refusal.group())) {
-                    Edges.fault("no test of \"" + refusal.group() + "\"");
-                }
+        }
+    }
+
+    private static void everyWordIsTested(String text, Set<String> tested) {
+        boolean[] isBorne = new boolean[text.length()];
+        for (String words : tested) {
+            bear(isBorne, Pattern.compile(Pattern.quote(words)).matcher(text));
+        }
+        for (String other : NOT_OF_CALLS) {
+            bear(isBorne, Pattern.compile(other).matcher(text));
+        }
+        StringBuilder left = new StringBuilder();
+        for (int i = 0; i < text.length(); i++) {
+            left.append(isBorne[i] ? ' ' : text.charAt(i));
+        }
+        Matcher words = Pattern.compile("\\w[^ ]*( [^ ]+)*").matcher(left);
+        while (words.find()) {
+            Edges.fault("no test of \"" + words.group() + "\"");
+        }
+    }
+
+    private static void bear(boolean[] isBorne, Matcher found) {
+        while (found.find()) {
+            for (int i = found.start(); i < found.end(); i++) {
+                isBorne[i] = true;
             }
         }
     }
@@ -105,6 +143,6 @@ public final class EdgesTest {
     }
 
     private static String plain(String text) {
-        return text.replace("`", "").replaceAll("\\s+", " ").trim();
+        return text.replaceAll("```\\w*", "").replace("`", "").replaceAll("\\s+", " ").trim();
     }
 }
